@@ -692,7 +692,9 @@ public final class DomainHouse {
             if (times < 0 || wayLength + times > WAY_MOST) {
                 return false;
             }
-            System.arraycopy(way, 0, way, times, wayLength);
+            for (int i = wayLength - 1; i >= 0; i--) {
+                way[i + times] = way[i];
+            }
             for (int i = 0; i < times; i++) {
                 way[i] = number;
             }
@@ -719,7 +721,9 @@ public final class DomainHouse {
             if (has || markCount >= MARKS_MOST) {
                 return;
             }
-            System.arraycopy(marks, place, marks, place + 1, markCount - place);
+            for (int i = markCount; i > place; i--) {
+                marks[i] = marks[i - 1];
+            }
             marks[place] = mark;
             markCount++;
         }
