@@ -2520,7 +2520,7 @@ public final class DomainHouse {
             demandFrom = new int[DEMANDS_MOST];
             demandAddress = new int[DEMANDS_MOST];
             demandUnits = new int[DEMANDS_MOST];
-            border = new long[2 * PREFIXES_MOST + 2];
+            border = new long[2 * PREFIXES_MOST];
         }
 
         /** The tie over which a domain sends, or OWN, or NONE for nowhere. */
@@ -2646,7 +2646,7 @@ public final class DomainHouse {
             return tie < 0 ? NOWHERE_BIT : 1 << tie;
         }
 
-        /** Between two neighbouring borders of prefixes all addresses go alike. */
+        /** Between two neighbouring borders of prefixes all addresses go alike; outside of all nobody sends. */
         long unlikeAddresses(int a, int b) {
             int borders = layBorders();
             long sum = 0;
@@ -2661,12 +2661,11 @@ public final class DomainHouse {
 
         private int layBorders() {
             int count = 0;
-            insertBorder(0L, count++);
-            insertBorder(1L << ADDRESS_BITS, count++);
             for (int p = 0; p < world.prefixes; p++) {
                 long from = world.address[p] & 0xFFFFFFFFL;
-                insertBorder(from, count++);
-                insertBorder(from + (1L << ADDRESS_BITS - world.length[p]), count++);
+                insertBorder(from, count);
+                insertBorder(from + (1L << ADDRESS_BITS - world.length[p]), count + 1);
+                count += 2;
             }
             return count;
         }
@@ -2685,8 +2684,6 @@ public final class DomainHouse {
     private static final class Net {
         static final int PLACES = 7;
         static final int WISHES_MOST = 5;
-        private static final int ALWAYS = 0;
-        private static final int NOT_EVER = -1;
         private static final int REACHED = 1;
         private static final int LEADS_TO_REST = 2;
 
@@ -2787,17 +2784,11 @@ public final class DomainHouse {
             }
         }
 
+        /** A needed way of -1 is one that its place does not wish for, and so never has. */
         private void need(int slot) {
             int second = ways[slot * PLACES + 1];
             neededPlace[slot] = second;
-            if (second == 0) {
-                neededPlace[slot] = ALWAYS;
-                return;
-            }
-            neededWay[slot] = find(ways, slot * PLACES + 1, lengths[slot] - 1);
-            if (neededWay[slot] < 0) {
-                neededPlace[slot] = NOT_EVER;
-            }
+            neededWay[slot] = second == 0 ? 0 : find(ways, slot * PLACES + 1, lengths[slot] - 1);
         }
 
         /** What a place has when it acts; its number of wishes stands for none. */
@@ -2805,7 +2796,7 @@ public final class DomainHouse {
             for (int w = 0; w < wishes[place]; w++) {
                 int slot = place * WISHES_MOST + w;
                 int second = neededPlace[slot];
-                if (second == ALWAYS || second > 0 && has[second] == neededWay[slot]) {
+                if (second == 0 || has[second] == neededWay[slot]) {
                     return w;
                 }
             }
@@ -2908,8 +2899,7 @@ public final class DomainHouse {
                     levelEnd = met;
                 }
                 unfold(queue[i]);
-                int grown = addNeighbours(queue[i], met);
-                met = grown;
+                met = addNeighbours(queue[i], met);
                 if (isRest()) {
                     flags[queue[i]] |= LEADS_TO_REST;
                     found[1]++;

@@ -231,7 +231,7 @@ final class NaivePolicy {
             return new Test("not " + inner.text(), going -> !inner.holds().test(going));
         }
         int number = random.nextInt(4);
-        switch (random.nextInt(10)) {
+        switch (random.nextInt(12)) {
             case 0:
                 return randomIn(random);
             case 1:

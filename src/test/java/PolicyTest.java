@@ -38,6 +38,8 @@ public final class PolicyTest {
     private static void wordFaults(Check check) {
         fault(check, "lets;", 1, 0);
         fault(check, "le;", 1, 0);
+        fault(check, "z;", 1, 0);
+        fault(check, "letz;", 1, 0);
         fault(check, "let;\n\n foo", 1, 7);
         fault(check, "if notmark 3 then bar;", 1, 3);
         fault(check, "add 0000000001;", 1, 4);
@@ -62,6 +64,8 @@ public final class PolicyTest {
         fault(check, "if not", 2, 6);
         fault(check, "if mark then let;", 2, 8);
         fault(check, "if tie bad then let;", 2, 7);
+        fault(check, "if tie then let;", 2, 7);
+        fault(check, "if right then let;", 2, 9);
         fault(check, "if right kin then let;", 2, 9);
         fault(check, "if length 3 then let;", 2, 10);
         fault(check, "if wish < = 3 then let;", 2, 10);
@@ -178,8 +182,9 @@ public final class PolicyTest {
         check.due("hand 9", house.hand(9), Check.NONE);
         check.due("hand 100", house.hand(100), Check.NONE);
         check.due("most", house.hand(Integer.MAX_VALUE), Check.NONE);
-        house.route(0, 1, 1, 1);
+        check.due("the least numbers", house.route(0, 0, 0, 0), 0);
         check.due("an empty way", house.hand(4), 0);
+        check.due("wish", house.hand(1), 0);
     }
 
     /** Whether a test is so: the policy bars if it is. */

@@ -11,11 +11,13 @@ public final class RandomRunsTest {
     private final DomainHouse house = new DomainHouse();
     private final NaiveHouse naive = new NaiveHouse();
     private final String run;
+    private final boolean star;
 
     private RandomRunsTest(Check check, int seed) {
         this.check = check;
         random = new Random(seed);
         run = "run " + seed + ": ";
+        star = seed % 3 == 0;
     }
 
     public static void main(String[] args) {
@@ -36,6 +38,12 @@ public final class RandomRunsTest {
         int ties = 1 + random.nextInt(random.nextInt(5) == 0 ? 20 : 2 * domains);
         for (int i = 0; i < ties; i++) {
             makeTie();
+        }
+        for (int i = 1; star && i < domains; i++) {
+            int other = random.nextInt(domains);
+            if (house.tie(other, 0, 1) >= 0) {
+                naive.addTie(other, 0, 1);
+            }
         }
         for (int i = 0; i < CALLS; i++) {
             change();
@@ -92,6 +100,10 @@ public final class RandomRunsTest {
     private void change() {
         if (naive.ties.isEmpty()) {
             makeTie();
+            return;
+        }
+        if (star && random.nextBoolean()) {
+            hear();
             return;
         }
         switch (random.nextInt(16)) {
@@ -233,7 +245,7 @@ public final class RandomRunsTest {
 
     private void hear() {
         int tie = tie();
-        int side = random.nextInt(2);
+        int side = star && naive.ties.get(tie).b == 0 ? 1 : random.nextInt(2);
         int prefix = prefix();
         NaiveHouse.Prefix told = naive.prefixes.get(prefix);
         Wire wire = new Wire();
@@ -244,6 +256,7 @@ public final class RandomRunsTest {
             int[] way = new int[random.nextInt(random.nextInt(6) == 0 ? 21 : 4)];
             for (int i = 0; i < way.length; i++) {
                 way[i] = random.nextInt(5) == 0 ? random.nextInt() : random.nextInt(12);
+                way[i] = star ? random.nextInt(3) - 2 : way[i];
             }
             int origin = random.nextInt(3);
             int cost = random.nextInt(4);

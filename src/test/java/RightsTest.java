@@ -112,6 +112,12 @@ public final class RightsTest {
         house.strike(1, 5);
         check.due("struck today: unknown", house.picked(1, 1), 0);
         check.due("unknown", house.hand(1), 50);
+        house.use(0, 0, 0, 0);
+        house.announce(1, 2, 0);
+        house.go(9);
+        check.due("0 has picked it, too", house.picked(0, 2), 0);
+        house.today(4);
+        check.due("all look, 0 first: bad for 1", house.picked(0, 2), Check.NONE);
     }
 
     /** A policy out that hangs on rights says anew, though nothing picked has changed. */

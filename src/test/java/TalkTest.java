@@ -19,6 +19,7 @@ public final class TalkTest {
         tiesFallAndComeBack(check);
         waysOfTwenty(check);
         wishStaysAtHome(check);
+        whatIsOtherThanBefore(check);
         steps(check);
         groupedAndPlain(check);
         emptyWaysStandAlone(check);
@@ -332,6 +333,27 @@ public final class TalkTest {
         house.picked(2, 0);
         check.due("next one", house.hand(1), 100);
         check.due("the policy out saw 100", house.hand(100), 5);
+    }
+
+    /** A change in any one part of what is picked is said; heard again as it was, nothing is. */
+    private static void whatIsOtherThanBefore(Check check) {
+        DomainHouse house = star(2);
+        Wire[] each = {
+            new Wire().origin(0).way(7, 6).cost(5).marks(3),
+            new Wire().origin(0).way(8, 6).cost(5).marks(3),
+            new Wire().origin(0).way(8, 7).cost(5).marks(3),
+            new Wire().origin(0).way(8).cost(5).marks(3),
+            new Wire().origin(1).way(8).cost(5).marks(3),
+            new Wire().origin(1).way(8).cost(4).marks(3),
+            new Wire().origin(1).way(8).cost(4).marks(2),
+            new Wire().origin(1).way(8).cost(4).marks(2, 3),
+        };
+        for (Wire one : each) {
+            Wire.hear(house, 0, 0, one.announce(10 << 24, 8));
+            check.due("said over the other tie", house.count(8), 1);
+            house.hear(0, 0);
+            check.due("once", house.go(ALL), 1);
+        }
     }
 
     /** Two routes that are unlike in one thing each, under a rule that looks at it first. */

@@ -1,3 +1,8 @@
+import java.util.ArrayList;
+import java.util.Arrays;
+import java.util.List;
+import java.util.Random;
+
 /** Promises 4 to 12: prefix, domain, tie, pace, raise, cone, ring, walk, letWay. */
 public final class WorldTest {
     private static final int PROVIDER = 0;
@@ -15,6 +20,9 @@ public final class WorldTest {
         ringOfLikeOnes(check);
         walk(check);
         letWay(check);
+        for (int seed = 0; seed < 500; seed++) {
+            randomNet(check, new Random(seed));
+        }
         check.end();
     }
 
@@ -205,6 +213,87 @@ public final class WorldTest {
 
     private static void way(Check check, DomainHouse house, int want, int... numbers) {
         Check.walk(house, numbers);
-        check.due("letWay " + java.util.Arrays.toString(numbers), house.letWay(), want);
+        check.due("letWay " + Arrays.toString(numbers), house.letWay(), want);
+    }
+
+    /** Rings, cones and ways of a random net, by trying all. */
+    private static void randomNet(Check check, Random random) {
+        DomainHouse house = new DomainHouse();
+        int domains = 2 + random.nextInt(8);
+        Check.domains(house, domains);
+        int[][] step = new int[10][10];
+        for (int i = random.nextInt(20); i > 0; i--) {
+            int a = random.nextInt(domains);
+            int b = random.nextInt(domains);
+            int kind = random.nextInt(4) / 2 * random.nextInt(3);
+            if (house.tie(a, b, kind) >= 0) {
+                step[a][b] = kind == PROVIDER ? 3 : kind;
+                step[b][a] = kind == PROVIDER ? 4 : kind;
+            }
+        }
+        List<Integer> best = null;
+        for (int start = 0; start < domains && best == null; start++) {
+            best = shortest(step, new ArrayList<>(List.of(start)), null);
+        }
+        check.dueRow("ring", house::ring, best == null ? new int[0] : best.stream().mapToInt(Integer::intValue).toArray());
+        for (int d = 0; d < domains; d++) {
+            boolean[] inside = new boolean[10];
+            enter(step, d, inside);
+            int size = 0;
+            for (int other = 0; other < domains; other++) {
+                size += inside[other] ? 1 : 0;
+                check.due("cone", house.cone(d, other), inside[other] ? 1 : 0);
+            }
+            check.due("cone", house.cone(d, -1), size);
+        }
+        for (int i = 0; i < 20; i++) {
+            randomWay(check, house, step, random);
+        }
+    }
+
+    private static List<Integer> shortest(int[][] step, List<Integer> row, List<Integer> best) {
+        int last = row.get(row.size() - 1);
+        if (best != null && row.size() >= best.size()) {
+            return best;
+        }
+        if (row.size() > 2 && step[last][row.get(0)] == 3) {
+            return new ArrayList<>(row);
+        }
+        for (int next = 0; next < 10; next++) {
+            if (step[last][next] == 3 && !row.contains(next)) {
+                row.add(next);
+                best = shortest(step, row, best);
+                row.remove(row.size() - 1);
+            }
+        }
+        return best;
+    }
+
+    private static void enter(int[][] step, int domain, boolean[] inside) {
+        inside[domain] = true;
+        for (int next = 0; next < 10; next++) {
+            if (step[domain][next] == 3 && !inside[next]) {
+                enter(step, next, inside);
+            }
+        }
+    }
+
+    /** Its steps as a text: P to a provider, E to an equal, C to a customer, nothing to kin, x where no tie is. */
+    private static void randomWay(Check check, DomainHouse house, int[][] step, Random random) {
+        List<Integer> row = new ArrayList<>(List.of(random.nextInt(10)));
+        int want = 0;
+        String steps = "";
+        for (int i = random.nextInt(6); i > 0; i--) {
+            int from = row.get(row.size() - 1);
+            int to = random.nextInt(10);
+            for (int k = 0; k < 9 && step[from][to] == 0; k++) {
+                to = random.nextInt(10);
+            }
+            row.add(to);
+            int kind = step[from][to];
+            steps += kind == 4 ? "P" : kind == 3 ? "C" : kind == EQUALS ? "E" : kind == KIN ? "" : "x";
+            want = want == 0 && !steps.matches("P*E?C*") ? row.size() - 1 : want;
+        }
+        way(check, house, want, row.stream().mapToInt(Integer::intValue).toArray());
     }
 }
