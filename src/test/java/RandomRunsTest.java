@@ -103,7 +103,11 @@ public final class RandomRunsTest {
             return;
         }
         if (star && random.nextBoolean()) {
-            hear();
+            if (random.nextInt(3) == 0) {
+                rule();
+            } else {
+                hear();
+            }
             return;
         }
         switch (random.nextInt(16)) {
@@ -178,7 +182,7 @@ public final class RandomRunsTest {
     }
 
     private void rule() {
-        int domain = domain();
+        int domain = star ? 0 : domain();
         StringBuilder steps = new StringBuilder();
         String left = "123456";
         for (int i = random.nextInt(7); i > 0; i--) {
@@ -256,7 +260,7 @@ public final class RandomRunsTest {
             int[] way = new int[random.nextInt(random.nextInt(6) == 0 ? 21 : 4)];
             for (int i = 0; i < way.length; i++) {
                 way[i] = random.nextInt(5) == 0 ? random.nextInt() : random.nextInt(12);
-                way[i] = star ? random.nextInt(3) - 2 : way[i];
+                way[i] = star ? 70 - random.nextInt(3) * 71 : way[i];
             }
             int origin = random.nextInt(3);
             int cost = random.nextInt(4);
@@ -294,6 +298,9 @@ public final class RandomRunsTest {
     private void look() {
         if (naive.ties.isEmpty()) {
             return;
+        }
+        if (star) {
+            comparePicked(0, prefix());
         }
         check.due(run + "clock", house.count(7), naive.clock);
         check.due(run + "to come", house.count(8), naive.events.size());

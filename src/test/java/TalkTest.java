@@ -22,6 +22,7 @@ public final class TalkTest {
         whatIsOtherThanBefore(check);
         steps(check);
         groupedAndPlain(check);
+        onlyTheBestOfAGroup(check);
         emptyWaysStandAlone(check);
         why(check);
         wrongNumbers(check);
@@ -402,6 +403,9 @@ public final class TalkTest {
         house.rule(0, 45, true);
         check.due("grouped", house.picked(0, 0), 0);
         check.due("why not 2, though it beats", house.why(2, 0, 0), 5);
+        house.until(4);
+        hear(house, 0, 0, 0, 5);
+        check.due("heard too late", house.picked(0, 0), 1);
         house.rule(0, 65, true);
         check.due("no three", house.three(0, 0, 0), Check.NONE);
         house.rule(0, 45, true);
@@ -409,6 +413,21 @@ public final class TalkTest {
         check.due("none with own", house.three(0, 0, 0), Check.NONE);
         check.due("no prefix", house.three(0, 1, 0), Check.BAD);
         check.due("no domain, k not looked at", house.three(4, 0, 9), Check.BAD);
+    }
+
+    /** What its group has left behind does not come in again, though it would beat the best of another group. */
+    private static void onlyTheBestOfAGroup(Check check) {
+        DomainHouse house = star(3);
+        house.rule(0, 45, true);
+        house.until(1);
+        hear(house, 2, 0, 20, 7);
+        house.until(2);
+        hear(house, 0, 0, 0, 5);
+        house.until(3);
+        hear(house, 1, 0, 10, 7);
+        check.due("5 ahead of the best of 7", house.picked(0, 0), 0);
+        hear(house, 1, 0, 30, 7);
+        check.due("the other one of 7", house.picked(0, 0), 2);
     }
 
     private static void emptyWaysStandAlone(Check check) {
