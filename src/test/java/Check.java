@@ -9,6 +9,7 @@ final class Check {
     static final int OWN = -4;
 
     private final String test;
+    private String sentence = "";
     private int asked;
     private int wrong;
 
@@ -20,8 +21,23 @@ final class Check {
         asked++;
         if (got != want) {
             wrong++;
-            System.out.println(test + ": " + call + " answered " + got + ", due is " + want);
+            System.out.println(test + sentence + ": " + call + " answered " + got + ", due is " + want);
         }
+    }
+
+    /** What follows tests these words of a promise; they must stand in the document just so. */
+    void promise(int number, String words) {
+        quote("promise " + number, Doc.promise(number), words);
+    }
+
+    /** What follows tests these words of a part of the document's terms, 0 being the words ahead of part 1. */
+    void term(int part, String words) {
+        quote("part " + part, Doc.term(part), words);
+    }
+
+    private void quote(String where, String text, String words) {
+        sentence = " (" + where + ": " + words + ")";
+        due("do these words stand there", text.contains(words) ? 1 : 0, 1);
     }
 
     /** Asks from 0 on: the row is just this, and behind it is NONE. */
@@ -40,6 +56,9 @@ final class Check {
     }
 
     static void tape(DomainHouse house, int... bytes) {
+        if (bytes.length > 1000) {
+            throw new IllegalArgumentException("a test's tape of " + bytes.length + " bytes");
+        }
         house.cut(0);
         for (int from = 0; from < bytes.length; from += 20) {
             int[] numbers = new int[5];
