@@ -7,6 +7,7 @@ public final class EdgesOfGoingTest {
         inLengths(check);
         emptyWays(check);
         wholeWays(check);
+        waysApart(check);
         repeats(check);
         anyNumber(check);
         waysOfTwenty(check);
@@ -143,8 +144,42 @@ public final class EdgesOfGoingTest {
         way(check, "1(2|3)4", true, 1, 3, 4);
         way(check, "1(2|3)4", false, 1, 2, 3, 4);
         way(check, "1(2|)4", true, 1, 4);
+        way(check, "1(2|3)4", false, 1, 1, 2, 4);
+        way(check, "1(2)4", false, 1, 1, 2, 4);
+        way(check, "1(2|3)", false, 1, 1, 3);
+        way(check, "1(2|3)4", true, 1, 2, 4);
+        way(check, "1(2|3)4", false, 1, 4);
+        way(check, "1|2", true, 1);
+        way(check, "1|2", true, 2);
+        way(check, "1|2|3", true, 1);
+        way(check, "1|2|3", true, 2);
+        way(check, "1|2", false, 1, 2);
+        way(check, "(1|2)3", true, 1, 3);
+        way(check, "(1|2)3", true, 2, 3);
+        way(check, "(1|2)3", false, 1, 2, 3);
+        way(check, "(1|2)(3|4)", true, 1, 4);
+        way(check, "(1|2)(3|4)", true, 2, 3);
+        way(check, "3(1|2)", true, 3, 1);
         way(check, "01", true, 1);
         way(check, "11", false, 1, 1);
+    }
+
+    /** Several ways in one text, and several texts in one house, know nothing of one another. */
+    private static void waysApart(Check check) {
+        check.term(3, "way: the whole WAY is as the ANY tells");
+        DomainHouse house = routed(1, 0, 0, 0, 1, 2);
+        check.due("1 2", judged(house, "if way(1 2)then bar;"), 0);
+        check.due("not 1, not 2, in another text", judged(house, "if way(1|2)then bar;"), 1);
+        check.due("not 2 1", judged(house, "if way(2 1)then bar;"), 1);
+        check.due("not 1, not 2, in one text", judged(house, "if way(1)then bar;if way(2)then bar;if way()then bar;"), 1);
+        check.due("the second of one row", judged(house, "if way(any any)and way(1 2)then bar;"), 0);
+        check.due("not the second", judged(house, "if way(1 2)and way(2 2)then bar;"), 1);
+        String many = "if " + "way(any*)and ".repeat(40) + "way(1 2)then bar;";
+        check.due("41 ways", judged(house, many.replace("any", "")), -10 - 7);
+        String empty = "if " + "not way()and ".repeat(75) + "not way()then bar;";
+        for (int i = 0; i < 5; i++) {
+            check.due("76 ways in each of five texts", judged(house, empty), 0);
+        }
     }
 
     private static void repeats(Check check) {

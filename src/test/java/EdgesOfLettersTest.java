@@ -27,9 +27,11 @@ public final class EdgesOfLettersTest {
         leastOfHalves(check);
         nestedTables(check);
         leastOfMany(check);
+        leastOverEachTie(check);
         wrongLeasts(check);
         differs(check);
         differsAtTheEnds(check);
+        differsInAnyOrder(check);
         samePartner(check);
         wrongDiffers(check);
         check.end();
@@ -384,6 +386,35 @@ public final class EdgesOfLettersTest {
         check.due("OWN in the first quarter: all over TIE 0, that one, three over TIE 1", house.least(0), 5);
     }
 
+    /** Each of twenty ties leads elsewhere: its table has one prefix, and none of them is NOWHERE or OWN. */
+    private static void leastOverEachTie(Check check) {
+        check.term(6, "each with where letters go (a TIE, OWN, NOWHERE);");
+        DomainHouse house = new DomainHouse();
+        Check.domains(house, 10);
+        house.prefix(0, 1);
+        house.prefix(1 << 30, 2);
+        house.prefix(1 << 29, 3);
+        for (int i = 0; i < 20; i++) {
+            house.tie(i % 10, (i + 1 + i / 10) % 10, 1);
+        }
+        Wire first = new Wire().origin(0).way(99).announce(0, 1);
+        for (int tie = 0; tie < 20; tie++) {
+            int domain = tie % 10;
+            Wire.hear(house, tie, 0, first);
+            check.due("over TIE " + tie, house.least(domain), 1);
+            house.announce(domain, 1, 0);
+            check.due("and OWN", house.least(domain), 2);
+            house.withdraw(domain, 1);
+            Wire.hear(house, tie, 0, new Wire().withdraw(0, 1));
+            check.due("NOWHERE", house.least(domain), 0);
+        }
+        Wire.hear(house, 9, 0, first);
+        Wire.hear(house, 19, 0, new Wire().origin(0).way(99).announce(1 << 30, 2));
+        check.due("over TIES 9 and 19", house.least(9), 2);
+        house.announce(9, 2, 0);
+        check.due("over TIES 9 and 19, and OWN", house.least(9), 3);
+    }
+
     private static void wrongLeasts(Check check) {
         check.promise(42, "BAD: none such.");
         DomainHouse house = Scene.chain(2);
@@ -429,6 +460,21 @@ public final class EdgesOfLettersTest {
         check.due("all but the last", all.differ(0, 1), (1L << 32) - 1);
         all.announce(1, 2, 0);
         check.due("and the first", all.differ(0, 1), (1L << 32) - 2);
+    }
+
+    /** The prefixes come in any order, and some hold others. */
+    private static void differsInAnyOrder(Check check) {
+        check.promise(43, "How many addresses two DOMAINS do not send to the same:");
+        int[][] prefixes = {{-1, 32}, {LEAST, 1}, {1 << 30, 2}, {1 << 29, 3}, {0, 32}, {LEAST, 2}};
+        int[][] orders = {{0, 1, 2, 3, 4, 5}, {5, 4, 3, 2, 1, 0}, {4, 3, 2, 1, 0, 5}, {2, 4, 0, 1, 5, 3}, {1, 0, 3, 5, 4, 2}};
+        for (int[] order : orders) {
+            DomainHouse house = new DomainHouse();
+            Check.domains(house, 2);
+            for (int i : order) {
+                house.announce(0, house.prefix(prefixes[i][0], prefixes[i][1]), 0);
+            }
+            check.due("the upper half, 3 of 8 parts of the lower one, one address", house.differ(0, 1), (1L << 31) + (3L << 29) + 1);
+        }
     }
 
     private static void samePartner(Check check) {

@@ -33,6 +33,8 @@ public final class EdgesOfMessageTest {
         withdrawnInstead(check);
         carried(check);
         tapeIsEmptied(check);
+        latestAlone(check);
+        atTheEndOfTheTape(check);
         placeOfTheFault(check);
         askedOfRows(check);
         hundredOfEach(check);
@@ -460,6 +462,48 @@ public final class EdgesOfMessageTest {
         check.due("so the next one is empty, and a CLOSE", house.message(), CLOSE);
     }
 
+    /** Nothing of an earlier message is left in a later one. */
+    private static void latestAlone(Check check) {
+        check.promise(33, "Of the latest message():");
+        DomainHouse house = new DomainHouse();
+        Wire full = new Wire().origin(2).way(7, 8).cost(9).marks(1, 2).attribute(192, 33).attribute(192, 34).withdraw(TEN, 8).announce(0, 0);
+        check.due("all", Check.message(house, full.bytes()), 0);
+        check.due("no ORIGIN, no WAY: those ahead do not count", Check.message(house, 0, 0, 0, 0, 0), WITHDRAW);
+        check.due("no WAY", Check.message(house, new Wire().origin(0).announce(0, 0).bytes()), WITHDRAW);
+        check.due("all again", Check.message(house, full.bytes()), 0);
+        check.due("no ORIGIN", Check.message(house, new Wire().way(7).announce(0, 0).bytes()), WITHDRAW);
+        check.due("a type that was there in another one", Check.message(house, full.bytes()), 0);
+        check.due("none", Check.message(house, 0, 0, 0, 0), 0);
+        for (int what = 1; what <= 7; what++) {
+            check.due("part " + what, house.part(what), 0);
+        }
+        int[] rows = {100, 200, 300, 400, 500, 600, 700};
+        for (int what : rows) {
+            check.due("part " + what, house.part(what), Check.NONE);
+        }
+        check.due("one is CARRIED", Check.message(house, new Wire().attribute(192, 35).bytes()), 0);
+        check.dueRow("that alone", i -> house.part(700 + i), 35);
+    }
+
+    /** Attributes whose last byte is the last one that a tape can have. */
+    private static void atTheEndOfTheTape(Check check) {
+        check.term(5, "2 WITHDRAW: an ATTRIBUTE that is not all in ATTRIBUTES");
+        int[][] last = {{64}, {64, 2}, {80, 2, 0}, {64, 2, 1}, {64, 2, 1, 2}, {64, 2, 2, 2, 1}, {64, 2, 5, 2, 1, 0, 0, 0}, {64, 1, 1}, {128, 4, 4, 0, 0, 0},
+            {192, 8, 4, 0, 0, 0}};
+        for (int[] one : last) {
+            int padding = 1000 - 4 - 4 - one.length;
+            Wire wire = new Wire().attribute(144, 99, new int[padding]).raw(one);
+            told(check, "at the end " + java.util.Arrays.toString(one), WITHDRAW, 1000 - one.length, wire.bytes());
+        }
+        check.term(5, "or whose bytes are not all in its part.");
+        int[][] prefixes = {{8}, {9, 1}, {32, 1, 2, 3}, {33}, {255}};
+        for (int[] one : prefixes) {
+            int padding = 1000 - 4 - 13 - 4 - one.length;
+            Wire wire = good().attribute(144, 99, new int[padding]).rawAnnounced(one);
+            told(check, "at the end " + java.util.Arrays.toString(one), CLOSE, 1000 - one.length, wire.bytes());
+        }
+    }
+
     private static void placeOfTheFault(Check check) {
         check.promise(33, "Of the latest message(): 0 the place of its FAULT (of the KIND told; NONE),");
         DomainHouse house = new DomainHouse();
@@ -571,6 +615,14 @@ public final class EdgesOfMessageTest {
         check.due("WITHDRAWN", house.picked(1, 1), Check.NONE);
         check.due("SAID once", house.count(8), 1);
         house.go(9);
+        Wire.hear(house, 0, 1, good().announce(11 << 24, 8));
+        check.due("HEARD of PREFIX 1", house.heard(0, 1, 1, 0), 1);
+        check.due("its PREFIX", house.hand(0), 1);
+        check.due("PICKED of PREFIX 1", house.picked(1, 1), 0);
+        check.due("its PREFIX", house.hand(0), 1);
+        house.go(9);
+        check.due("HEARD on", house.heard(1, 1, 1, 0), 2);
+        check.due("its PREFIX", house.hand(0), 1);
         Check.message(house, new Wire().withdraw(TEN, 8).bytes());
         check.due("WITHDRAWN alone", house.hear(0, 1), 1);
         check.due("nothing", house.picked(1, 0), Check.NONE);
@@ -633,6 +685,8 @@ public final class EdgesOfMessageTest {
         Wire.hear(house, 0, 1, new Wire().origin(1).way(-1).cost(1).marks(65535, 0).announce(TEN, 8));
         written(check, house, 1, 0, 0, 0, 0, 0, 35, 64, 1, 1, 1, 64, 2, 10, 2, 2, 0, 0, 0, 1, 255, 255, 255, 255,
             128, 4, 4, 0, 0, 0, 1, 192, 8, 8, 0, 0, 0, 0, 0, 0, 255, 255, 8, 10);
+        Wire.hear(house, 0, 1, new Wire().origin(0).way().marks(258).announce(TEN, 8));
+        written(check, house, 1, 0, 0, 0, 0, 0, 20, 64, 1, 1, 0, 64, 2, 6, 2, 1, 0, 0, 0, 1, 192, 8, 4, 0, 0, 1, 2, 8, 10);
         int[] nineteen = new int[19];
         java.util.Arrays.fill(nineteen, 0x01020304);
         Wire longest = new Wire().origin(1).way(nineteen).cost(1000000).marks(1, 2, 3, 4, 5, 6, 7, 8).announce(-1, 32);

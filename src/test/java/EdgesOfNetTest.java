@@ -148,6 +148,11 @@ public final class EdgesOfNetTest {
         check.due("BAD stands ahead of it", wish(house, 6, 7, 0), Check.BAD);
         check.due("another PLACE has room", wish(house, 5, 0), 1);
         check.due("six", house.clear(), 6);
+        for (int i = 1; i <= 5; i++) {
+            wish(house, 6, i, 0);
+        }
+        check.due("none of five is ever OFFERED", house.rest(0, 6), -4);
+        check.due("so nothing changes", house.tries(0), 1);
     }
 
     // ---- rests
@@ -291,6 +296,9 @@ public final class EdgesOfNetTest {
         check.due("from all of them", none.tries(2), none.tries(0));
         DomainHouse all = net(way(1, 0), way(2, 1, 0));
         check.due("from none of them", all.tries(2), 0);
+        DomainHouse gives = net(way(1, 2, 0), way(2, 3, 0), way(2, 0), way(3, 0));
+        check.due("from none: 1 gives up its WAY when 2 has another", gives.tries(2), 0);
+        check.due("that STATE is one of them", gives.tries(0), 8);
         DomainHouse trap = net(way(1, 2, 0), way(1, 0), way(2, 3, 0), way(2, 0), way(3, 1, 0), way(3, 0), way(4, 0));
         check.due("a fourth that settles changes nothing", trap.tries(2), trap.tries(0));
         DomainHouse some = net(way(4, 5, 0), way(4, 0), way(5, 4, 0), way(5, 0), way(1, 4, 0), way(1, 2, 0), way(1, 0), way(2, 3, 0), way(2, 0),

@@ -30,6 +30,7 @@ public final class EdgesOfPolicyTest {
         thirtyRows(check);
         fortyPlaces(check);
         sixBrackets(check);
+        eachTextByItself(check);
         leastOfOneToken(check);
         longTexts(check);
         twelvePolicies(check);
@@ -94,6 +95,13 @@ public final class EdgesOfPolicyTest {
                 fault(check, word.substring(1), NO_WORD, 0);
             }
             fault(check, word.toUpperCase(), NOT_THERE, 0);
+            for (int i = 0; i < word.length(); i++) {
+                fault(check, word.substring(0, i) + "j" + word.substring(i + 1), NO_WORD, 0);
+            }
+            String far = " ".repeat(1000 - word.length());
+            fault(check, far + word, NOT_THERE, begins ? 1000 : 1000 - word.length());
+            fault(check, far + word.substring(0, word.length() - 1) + "j", NO_WORD, 1000 - word.length());
+            fault(check, far + " " + word.substring(0, word.length() - 1), NO_WORD, 1001 - word.length());
         }
         fault(check, "a", NO_WORD, 0);
         fault(check, "z", NO_WORD, 0);
@@ -431,6 +439,26 @@ public final class EdgesOfPolicyTest {
         fault(check, "if way((((((())))))) then let;", TOO_MANY, 12);
     }
 
+    /** What is counted is counted anew in each text of a house. */
+    private static void eachTextByItself(Check check) {
+        check.term(3, "the 41st NUMBER or any in ways of the text,");
+        DomainHouse house = new DomainHouse();
+        String forty = "if way(" + "1 ".repeat(40) + ")then let;";
+        check.due("40", Check.policy(house, forty), 0);
+        check.due("40 again", Check.policy(house, forty), 1);
+        check.due("41", Check.policy(house, "if way(1)then let;" + forty), -10 - 18 - 85);
+        check.due("40 behind a FAULT", Check.policy(house, forty), 2);
+        check.term(3, "4 the 31st row (at its first TOKEN),");
+        check.due("30 rows", Check.policy(house, "let;".repeat(30)), 3);
+        check.due("30 rows again", Check.policy(house, "let;".repeat(30)), 4);
+        check.due("31 rows", Check.policy(house, "let;".repeat(31)), -130);
+        check.due("30 rows behind a FAULT", Check.policy(house, "let;".repeat(30)), 5);
+        check.term(3, "a ( of a way that lies within 6 others of it (the way's own counts).");
+        check.due("six deep", Check.policy(house, "if way((((((1))))))then let;"), 6);
+        check.due("six deep behind a FAULT in the midst", Check.policy(house, "if way((((((#"), -22);
+        check.due("six deep again", Check.policy(house, "if way((((((1))))))then let;"), 7);
+    }
+
     private static void leastOfOneToken(Check check) {
         check.term(3, "(Of one TOKEN the least.)");
         String thirty = "let;".repeat(30);
@@ -462,6 +490,9 @@ public final class EdgesOfPolicyTest {
         right(check, tests + " then let;");
         fault(check, tests + " then let", NOT_THERE, tests.length() + 9);
         fault(check, ")" + " ".repeat(999), NOT_THERE, 0);
+        fault(check, ")".repeat(1000), NOT_THERE, 0);
+        fault(check, "let;".repeat(3) + "#".repeat(988), NOT_THERE, 12);
+        fault(check, "1".repeat(1000), NO_WORD, 0);
         fault(check, " ".repeat(999) + ")", NOT_THERE, 999);
     }
 

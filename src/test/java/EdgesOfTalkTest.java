@@ -504,6 +504,12 @@ public final class EdgesOfTalkTest {
         check.due("COST by STEP 6", house.why(1, 0, 0), 6);
         house.rule(0, 0, false);
         check.due("no STEPS", house.why(1, 0, 0), 7);
+        house.prefix(11 << 24, 8);
+        house.announce(2, 1, 0);
+        house.go(ALL);
+        check.due("after another PREFIX was looked at", house.why(1, 0, 0), 7);
+        check.due("after another PREFIX was looked at", house.why(0, 0, 0), 0);
+        check.due("of that PREFIX", house.why(1, 0, 1), 0);
         house.rule(0, 654321, false);
         check.due("the first STEP of the RULE", house.why(1, 0, 0), 6);
     }
@@ -594,6 +600,11 @@ public final class EdgesOfTalkTest {
         Check.policy(house, "bar;");
         house.use(0, 0, 0, 0);
         check.due("one is barred", house.three(0, 0, 0), Check.NONE);
+        for (int tie = 0; tie < 3; tie++) {
+            DomainHouse fallen = ringOfThree();
+            fallen.raise(tie, false);
+            check.due("TIE " + tie + " is down", fallen.three(0, 0, 0), Check.NONE);
+        }
         DomainHouse two = Scene.star(2);
         two.rule(0, 45, false);
         check.due("no CANDIDATES", two.three(0, 0, 0), Check.NONE);

@@ -19,9 +19,13 @@ public final class EdgesOfTimeTest {
         ownIsPicked(check);
         plainByTies(check);
         groups(check);
+        groupsInAnyOrder(check);
+        eachGroupCanWin(check);
         emptyWaysByThemselves(check);
         otherThanBefore(check);
         whenDoesNotCount(check);
+        likeRoutes(check);
+        plainAtFirst(check);
         saidByTies(check);
         numberInFront(check);
         aboveTwenty(check);
@@ -163,6 +167,10 @@ public final class EdgesOfTimeTest {
         check.due("two empty WAYS have none", house.picked(0, 0), 0);
         hear(house, 1, 0, 3, 7);
         check.due("an empty one and another", house.picked(0, 0), 0);
+        hear(house, 0, 0, 5, 7);
+        check.due("one first number", house.picked(0, 0), 1);
+        hear(house, 1, 0, 3);
+        check.due("another and an empty one", house.picked(0, 0), 0);
         hear(house, 0, 0, 5, -1);
         hear(house, 1, 0, 3, -1);
         check.due("the greatest number", house.picked(0, 0), 1);
@@ -294,6 +302,54 @@ public final class EdgesOfTimeTest {
         check.due("the cheapest of one group", house.picked(0, 0), 3);
     }
 
+    /** Whichever tie each comes over: what its group has left behind does not come in again. */
+    private static void groupsInAnyOrder(Check check) {
+        check.term(4, "GROUPED: of the CANDIDATES with one first number likewise (an empty WAY: by itself), then of those that were left,");
+        int[][] orders = {{0, 1, 2}, {0, 2, 1}, {1, 0, 2}, {1, 2, 0}, {2, 0, 1}, {2, 1, 0}};
+        int[][] others = {{8}, {5}, {-1}, {LEAST}};
+        for (int[] order : orders) {
+            for (int[] other : others) {
+                groupsInOrder(check, order, other);
+            }
+        }
+    }
+
+    private static void groupsInOrder(Check check, int[] order, int[] other) {
+        DomainHouse house = Scene.star(3);
+        house.rule(0, 45, true);
+        house.until(1);
+        hear(house, order[0], 0, 20, 7);
+        house.until(2);
+        hear(house, order[1], 0, 0, other);
+        house.until(3);
+        hear(house, order[2], 0, 10, 7);
+        check.due("of 7 the cheaper, later one is left, so the other group's is PICKED", house.picked(0, 0), order[1]);
+        house.raise(order[1], false);
+        check.due("without it the cheaper one", house.picked(0, 0), order[2]);
+        house.raise(order[2], false);
+        check.due("without that the last one", house.picked(0, 0), order[0]);
+    }
+
+    /** Three groups, their first numbers in any order over the ties: each wins where it was heard first. */
+    private static void eachGroupCanWin(Check check) {
+        check.term(4, "by first numbers as numbers without sign (empty ones ahead, by TIES), likewise.");
+        int[][] ways = {{5}, {-8}, {}};
+        int[][] orders = {{0, 1, 2}, {0, 2, 1}, {1, 0, 2}, {1, 2, 0}, {2, 0, 1}, {2, 1, 0}};
+        for (int[] order : orders) {
+            for (int first = 0; first < 3; first++) {
+                DomainHouse house = Scene.star(3);
+                house.rule(0, 5, true);
+                hear(house, first, 0, 0, ways[order[first]]);
+                house.until(1);
+                hear(house, (first + 1) % 3, 0, 0, ways[order[(first + 1) % 3]]);
+                hear(house, (first + 2) % 3, 0, 0, ways[order[(first + 2) % 3]]);
+                check.due("the one HEARD first", house.picked(0, 0), first);
+                house.raise(first, false);
+                check.due("then the lesser partner", house.picked(0, 0), first == 0 ? 1 : 0);
+            }
+        }
+    }
+
     private static void emptyWaysByThemselves(Check check) {
         check.term(4, "(an empty WAY: by itself),");
         DomainHouse house = Scene.star(3);
@@ -326,6 +382,15 @@ public final class EdgesOfTimeTest {
         check.due("another WAY", house.go(ALL), 1);
         Wire.hear(house, 1, 0, new Wire().origin(1).way(8).cost(1).marks(0).announce(TEN, 8));
         check.due("a MARK", house.go(ALL), 1);
+        int[][] marks = {{1}, {0, 1}, {0, 2}, {1, 2}, {1, 2, 3, 4, 5, 6, 7, 8}, {1, 2, 3, 4, 5, 6, 7, 9}, {0, 2, 3, 4, 5, 6, 7, 9}};
+        for (int[] one : marks) {
+            Wire.hear(house, 1, 0, new Wire().origin(1).way(8).cost(1).marks(one).announce(TEN, 8));
+            check.due("other MARKS", house.go(ALL), 1);
+            house.hear(1, 0);
+            check.due("the same again", house.count(8), 0);
+        }
+        Wire.hear(house, 1, 0, new Wire().origin(1).way(8).cost(1).marks(0).announce(TEN, 8));
+        house.go(ALL);
         house.use(1, 0, 0, 0);
         check.due("another WISH is not SAID", house.count(8), 0);
         house.picked(0, 0);
@@ -342,6 +407,44 @@ public final class EdgesOfTimeTest {
         house.hear(0, 0);
         check.due("nothing is SAID", house.count(8), 0);
         check.due("HEARD anew", house.heard(0, 0, 0, 0), 9);
+    }
+
+    private static void likeRoutes(Check check) {
+        check.term(4, "If what is PICKED is other than before (the TIE, or anything of the ROUTE;");
+        DomainHouse house = Scene.star(2);
+        house.pace(1, 1, 0);
+        int[] twenty = {9, 8, 7, 6, 5, 4, 3, 2, 1, 9, 8, 7, 6, 5, 4, 3, 2, 1, 9, 8};
+        for (int length = 20; length >= 0; length--) {
+            int[] way = java.util.Arrays.copyOf(twenty, length);
+            hear(house, 0, 0, 0, way);
+            check.due("other by its length of " + length, house.go(ALL), length == 20 ? 0 : 1);
+            house.hear(0, 0);
+            check.due("the same again, of " + length, house.count(8), 0);
+            if (length > 0 && length < 20) {
+                way[length - 1] = 77;
+                hear(house, 0, 0, 0, way);
+                check.due("other by its last number, of " + length, house.go(ALL), 1);
+                way[0] = 78;
+                hear(house, 0, 0, 0, way);
+                check.due("other by its first number, of " + length, house.go(ALL), 1);
+            }
+        }
+    }
+
+    private static void plainAtFirst(Check check) {
+        check.term(4, "A DOMAIN has a RULE, a row of STEPS (1, 2, 3, 4, 5 at first);");
+        DomainHouse house = Scene.star(3);
+        house.until(1);
+        hear(house, 2, 0, 20, 7);
+        house.until(2);
+        hear(house, 0, 0, 0, 8);
+        house.until(3);
+        hear(house, 1, 0, 10, 7);
+        check.due("not GROUPED", house.picked(0, 0), 2);
+        house.rule(0, 12345, true);
+        check.due("GROUPED", house.picked(0, 0), 0);
+        house.rule(0, 12345, false);
+        check.due("plain, as at first", house.picked(0, 0), 2);
     }
 
     private static void saidByTies(Check check) {
@@ -415,6 +518,16 @@ public final class EdgesOfTimeTest {
         check.due("COST", house.hand(3), 4);
         house.picked(0, 0);
         check.due("what is PICKED is as it was", house.hand(3), 0);
+        DomainHouse through = Scene.star(2);
+        Check.policy(through, "wish 300;");
+        Check.policy(through, "if wish=100 then add 5;");
+        through.use(0, 0, 0, 0);
+        through.use(1, 0, 1, 1);
+        hear(through, 0, 0, 0, 7);
+        through.picked(0, 0);
+        check.due("PICKED with WISH 300", through.hand(1), 300);
+        through.heard(1, 0, 0, 1);
+        check.due("its POLICY out sees WISH 100", through.hand(100), 5);
         house.go(ALL);
         house.withdraw(0, 0);
         check.due("nothing, if nothing is PICKED", house.count(8), 1);
@@ -651,6 +764,22 @@ public final class EdgesOfTimeTest {
         }
         check.due("1 has LOOKED", house.picked(1, 0), Check.NONE);
         check.due("its OWN stays", house.picked(1, 1), Check.OWN);
+        for (int side = 0; side < 2; side++) {
+            for (int p = 0; p < 10; p += 9) {
+                DomainHouse full = new DomainHouse();
+                for (int i = 0; i < 10; i++) {
+                    full.prefix(i << 24, 8);
+                }
+                Check.domains(full, 3);
+                full.tie(0, 1, 0);
+                full.tie(1, 2, 0);
+                full.pace(0, 2, 1000);
+                full.announce(side, p, 0);
+                full.announce(side, p, 1);
+                full.raise(0, false);
+                check.due("arrival and WAIT of SIDE " + side + " and PREFIX " + p + ", not those of TIE 1", full.count(8), side);
+            }
+        }
         DomainHouse both = new DomainHouse();
         both.prefix(TEN, 8);
         both.prefix(ELEVEN, 8);
@@ -740,7 +869,7 @@ public final class EdgesOfTimeTest {
         house.announce(0, 1, 0);
         house.go(ALL);
         house.right(0, 8, 1, 0, 5, 0);
-        check.due("a RIGHT that is told: the first DOMAIN", house.picked(1, 0), Check.NONE);
+        check.due("a RIGHT that is told: DOMAIN 1", house.picked(1, 0), Check.NONE);
         check.due("the last DOMAIN", house.picked(2, 0), Check.NONE);
         check.due("the other PREFIX", house.picked(2, 1), 1);
         house.strike(0, 0);
@@ -752,6 +881,15 @@ public final class EdgesOfTimeTest {
         check.due("TODAY", house.picked(2, 1), Check.NONE);
         house.today(6);
         check.due("TODAY", house.picked(2, 1), 1);
+        house.use(0, 0, 0, 0);
+        house.prefix(12 << 24, 8);
+        house.announce(1, 2, 0);
+        house.go(ALL);
+        check.due("DOMAIN 0, too", house.picked(0, 2), 0);
+        house.right(2, 8, 2, 6, 7, 0);
+        check.due("DOMAIN 0, too", house.picked(0, 2), Check.NONE);
+        house.strike(2, 6);
+        check.due("DOMAIN 0, too", house.picked(0, 2), 0);
     }
 
     private static void orderOfAllSaying(Check check) {
