@@ -45,6 +45,7 @@ public final class EdgesOfTimeTest {
         policyIsTold(check);
         dayAndRights(check);
         orderOfAllSaying(check);
+        mostEvents(check);
         farMoments(check);
         check.end();
     }
@@ -411,10 +412,16 @@ public final class EdgesOfTimeTest {
 
     private static void likeRoutes(Check check) {
         check.term(4, "If what is PICKED is other than before (the TIE, or anything of the ROUTE;");
-        DomainHouse house = Scene.star(2);
-        house.pace(1, 1, 0);
+        likeRoutes(check, 20, 13);
+        likeRoutes(check, 13, 6);
+        likeRoutes(check, 6, 0);
+    }
+
+    /** Ever shorter ways, so that what is left of a longer one could be taken for a number of a shorter one. */
+    private static void likeRoutes(Check check, int longest, int shortest) {
         int[] twenty = {9, 8, 7, 6, 5, 4, 3, 2, 1, 9, 8, 7, 6, 5, 4, 3, 2, 1, 9, 8};
-        for (int length = 20; length >= 0; length--) {
+        DomainHouse house = Scene.star(2);
+        for (int length = longest; length >= shortest; length--) {
             int[] way = java.util.Arrays.copyOf(twenty, length);
             hear(house, 0, 0, 0, way);
             check.due("other by its length of " + length, house.go(ALL), length == 20 ? 0 : 1);
@@ -914,6 +921,36 @@ public final class EdgesOfTimeTest {
             check.due("then", house.heard(next[0], next[1], next[2], next[3]), 1);
         }
         check.due("none over the one that is down", house.heard(3, 1, 0, 0), Check.NONE);
+    }
+
+    /** All that can be under way at once, over twenty ties, by both sides, of ten prefixes, and a wait for each. */
+    private static void mostEvents(Check check) {
+        check.term(4, "EVENTS are done by their moments, of like ones as they were made;");
+        DomainHouse house = new DomainHouse();
+        for (int i = 0; i < 10; i++) {
+            house.prefix(i << 24, 8);
+            house.domain();
+        }
+        for (int i = 0; i < 20; i++) {
+            house.tie(i % 10, (i + 1 + i / 10) % 10, 1);
+            house.pace(i, 1000, 1000);
+        }
+        for (int origin = 0; origin < 2; origin++) {
+            for (int i = 0; i < 100; i++) {
+                house.announce(i / 10, i % 10, origin);
+            }
+            check.due("to come", house.count(8), 400 + 400 * origin);
+        }
+        check.due("500 of them", house.go(ALL), 500);
+        check.due("at", house.count(7), 1000);
+        check.due("300, and 100 SAID by WAITS that ended", house.count(8), 400);
+        check.due("300 and 200", house.go(ALL), 500);
+        check.due("at", house.count(7), 2000);
+        check.due("the last 200", house.go(ALL), 200);
+        check.due("none is to come", house.count(8), 0);
+        check.due("the last of all", house.heard(19, 1, 9, 0), 2000);
+        check.due("as SAID last", house.hand(2), 1);
+        check.due("the first of all", house.heard(0, 0, 0, 0), 2000);
     }
 
     /** No run of 512 calls comes to 2000000000; this is how far one can go, and moments are whole there. */
