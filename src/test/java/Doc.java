@@ -24,6 +24,11 @@ final class Doc {
         return between("======== " + part + " ", part == PARTS ? "Ahead of the calls" : "========");
     }
 
+    /** The lines of the public face. */
+    static String face() {
+        return between("## The public face", "## Terms");
+    }
+
     private static String between(String begin, String end) {
         int from = TEXT.indexOf(begin) + begin.length();
         int to = TEXT.indexOf(end, from);

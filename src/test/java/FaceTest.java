@@ -1,23 +1,25 @@
+import java.lang.reflect.Constructor;
+import java.lang.reflect.Field;
 import java.lang.reflect.Method;
 import java.lang.reflect.Modifier;
-import java.util.Arrays;
 import java.util.TreeSet;
+import java.util.regex.Matcher;
+import java.util.regex.Pattern;
 
 /** Promise 1, promise 49 and the face: what a new object has, the constants, no other public thing. */
 public final class FaceTest {
-    private static final String[] FACE = {
-        "announce", "clear", "cone", "count", "cut", "demand", "differ", "domain", "fault", "feed", "go", "hand",
-        "hear", "heard", "judge", "least", "led", "letWay", "letter", "load", "message", "octet", "pace", "part",
-        "picked", "policy", "prefix", "raise", "rest", "rests", "right", "ring", "route", "rule", "strike", "three",
-        "tie", "today", "tries", "units", "until", "use", "verdict", "walk", "why", "wish", "withdraw", "write",
-    };
+    private static final Pattern METHOD = Pattern.compile("public (int|long) (\\w+)\\(([^)]*)\\);");
+    private static final int METHODS = 48;
+    private static final int CALLS_OF_A_LIFE = 512;
 
     public static void main(String[] args) {
         Check check = new Check("FaceTest");
         constants(check);
-        members(check);
+        methods(check);
+        otherMembers(check);
         newObject(check);
         counts(check);
+        life(check);
         check.end();
     }
 
@@ -28,21 +30,71 @@ public final class FaceTest {
         check.due("NONE", DomainHouse.NONE, -99999999);
     }
 
-    private static void members(Check check) {
-        TreeSet<String> names = new TreeSet<>();
-        int open = 0;
+    /** As the document writes them: what each answers, its name, what it takes. */
+    private static TreeSet<String> toldMethods() {
+        TreeSet<String> told = new TreeSet<>();
+        Matcher matcher = METHOD.matcher(Doc.face());
+        while (matcher.find()) {
+            StringBuilder types = new StringBuilder();
+            for (String parameter : matcher.group(3).split(", ")) {
+                types.append(parameter.split(" ")[0]).append(' ');
+            }
+            told.add(matcher.group(1) + " " + matcher.group(2) + "( " + types.toString().trim());
+        }
+        return told;
+    }
+
+    private static void methods(Check check) {
+        TreeSet<String> there = new TreeSet<>();
         for (Method method : DomainHouse.class.getDeclaredMethods()) {
-            if (Modifier.isPublic(method.getModifiers())) {
-                names.add(method.getName());
-                open++;
-            } else if (!Modifier.isPrivate(method.getModifiers())) {
-                check.due("hidden " + method.getName(), 0, 1);
+            int kind = method.getModifiers();
+            if (Modifier.isPublic(kind) && !Modifier.isStatic(kind)) {
+                StringBuilder types = new StringBuilder();
+                for (Class<?> type : method.getParameterTypes()) {
+                    types.append(type.getName()).append(' ');
+                }
+                there.add(method.getReturnType().getName() + " " + method.getName() + "( " + types.toString().trim());
+            } else {
+                check.due("private is " + method.getName(), Modifier.isPrivate(kind) ? 1 : 0, 1);
             }
         }
-        check.due("methods of the face", names.equals(new TreeSet<>(Arrays.asList(FACE))) ? 1 : 0, 1);
-        check.due("none of them twice", open, FACE.length);
-        check.due("public fields", DomainHouse.class.getFields().length, 4);
-        check.due("final", Modifier.isFinal(DomainHouse.class.getModifiers()) ? 1 : 0, 1);
+        TreeSet<String> told = toldMethods();
+        check.due("methods that the document tells", told.size(), METHODS);
+        for (String method : told) {
+            check.due("there is " + method, there.contains(method) ? 1 : 0, 1);
+        }
+        check.due("methods that there are", there.size(), METHODS);
+    }
+
+    private static void otherMembers(Check check) {
+        int open = 0;
+        for (Field field : DomainHouse.class.getDeclaredFields()) {
+            int kind = field.getModifiers();
+            open += Modifier.isPublic(kind) ? 1 : 0;
+            check.due("open or private is " + field.getName(), Modifier.isPublic(kind) || Modifier.isPrivate(kind) ? 1 : 0, 1);
+        }
+        check.due("constants", open, 4);
+        Constructor<?>[] makers = DomainHouse.class.getDeclaredConstructors();
+        check.due("constructors", makers.length, 1);
+        check.due("it is public", Modifier.isPublic(makers[0].getModifiers()) ? 1 : 0, 1);
+        check.due("it takes nothing", makers[0].getParameterCount(), 0);
+        int kind = DomainHouse.class.getModifiers();
+        check.due("public and final", Modifier.isPublic(kind) && Modifier.isFinal(kind) ? 1 : 0, 1);
+    }
+
+    /** All calls of an object are answered, the 512th as the first. */
+    private static void life(Check check) {
+        DomainHouse house = new DomainHouse();
+        check.due("prefix", house.prefix(0, 0), 0);
+        check.due("domain", house.domain(), 0);
+        check.due("domain", house.domain(), 1);
+        check.due("tie", house.tie(0, 1, 0), 0);
+        for (int call = 4; call < CALLS_OF_A_LIFE; call += 4) {
+            check.due("announce, call " + (call + 1), house.announce(0, 0, 0), 0);
+            check.due("go, call " + (call + 2), house.go(500), 1);
+            check.due("withdraw, call " + (call + 3), house.withdraw(0, 0), 0);
+            check.due("go, call " + (call + 4), house.go(500), 1);
+        }
     }
 
     private static void newObject(Check check) {
