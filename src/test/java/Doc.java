@@ -29,6 +29,11 @@ final class Doc {
         return between("## The public face", "## Terms");
     }
 
+    /** The words behind the terms: which calls stand under which heading. */
+    static String headings() {
+        return "Ahead of the calls " + between("Ahead of the calls", "## Promise 1:");
+    }
+
     private static String between(String begin, String end) {
         int from = TEXT.indexOf(begin) + begin.length();
         int to = TEXT.indexOf(end, from);

@@ -1,7 +1,10 @@
+import java.io.IOException;
 import java.lang.reflect.Constructor;
 import java.lang.reflect.Field;
 import java.lang.reflect.Method;
 import java.lang.reflect.Modifier;
+import java.nio.file.Files;
+import java.nio.file.Path;
 import java.util.TreeSet;
 import java.util.regex.Matcher;
 import java.util.regex.Pattern;
@@ -9,14 +12,18 @@ import java.util.regex.Pattern;
 /** Promise 1, promise 49 and the face: what a new object has, the constants, no other public thing. */
 public final class FaceTest {
     private static final Pattern METHOD = Pattern.compile("public (int|long) (\\w+)\\(([^)]*)\\);");
+    private static final Pattern HEADING = Pattern.compile("Ahead of the calls ([^.]*) the interface says: ---- ([^.]*)\\.");
+    private static final Pattern OPEN_METHOD = Pattern.compile("(?m)^    public \\w+ (\\w+)\\(");
     private static final int METHODS = 48;
+    private static final int HEADINGS = 8;
     private static final int CALLS_OF_A_LIFE = 512;
 
-    public static void main(String[] args) {
+    public static void main(String[] args) throws IOException {
         Check check = new Check("FaceTest");
         constants(check);
         methods(check);
         otherMembers(check);
+        headings(check);
         newObject(check);
         counts(check);
         life(check);
@@ -80,6 +87,26 @@ public final class FaceTest {
         check.due("it takes nothing", makers[0].getParameterCount(), 0);
         int kind = DomainHouse.class.getModifiers();
         check.due("public and final", Modifier.isPublic(kind) && Modifier.isFinal(kind) ? 1 : 0, 1);
+    }
+
+    /** Calls stand in the class under the headings, and in the order, in which the document names them. */
+    private static void headings(Check check) throws IOException {
+        String source = Files.readString(Path.of("src/main/java/DomainHouse.java"));
+        Matcher told = HEADING.matcher(Doc.headings());
+        int found = 0;
+        while (told.find()) {
+            int from = source.indexOf("    // ---- " + told.group(2) + "\n");
+            check.due("there is the heading " + told.group(2), from >= 0 ? 1 : 0, 1);
+            int next = source.indexOf("    // ---- ", from + 1);
+            StringBuilder there = new StringBuilder();
+            Matcher method = OPEN_METHOD.matcher(source.substring(Math.max(0, from), next < 0 ? source.length() : next));
+            while (method.find()) {
+                there.append(there.length() == 0 ? "`" : ", `").append(method.group(1)).append('`');
+            }
+            check.due(told.group(2) + " has " + there, there.toString().equals(told.group(1)) ? 1 : 0, 1);
+            found++;
+        }
+        check.due("headings", found, HEADINGS);
     }
 
     /** All calls of an object are answered, the 512th as the first. */

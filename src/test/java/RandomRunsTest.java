@@ -90,11 +90,16 @@ public final class RandomRunsTest {
     private void makePolicy() {
         NaivePolicy policy = NaivePolicy.random(random, naive);
         String text = policy.text();
-        if (text.length() > 1000 || naive.policies.size() == 12) {
+        if (text.length() > 1000) {
             return;
         }
-        check.due(run + "policy " + text, Check.policy(house, text), naive.policies.size());
-        naive.policies.add(policy);
+        int there = naive.policies.size();
+        NaiveReader.Fault fault = NaiveReader.fault(text, there);
+        int number = there < 12 ? there : Check.FULL;
+        check.due(run + "policy " + text, Check.policy(house, text), fault.kind() == 0 ? number : -10 - fault.place());
+        if (fault.kind() == 0 && there < 12) {
+            naive.policies.add(policy);
+        }
     }
 
     private void change() {
